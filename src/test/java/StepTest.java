@@ -229,6 +229,16 @@ public final class StepTest {
         CHECK.due("byte 15", z.memory(15, false), 255);
         CHECK.due("byte 16", z.memory(16, false), 0);
         CHECK.due("byte 47", z.memory(47, false), 0);
+        // What stands before and behind a word is left alone.
+        WideStack v = started(500, new int[] {0x52, 0x60, 128, 0x52, 0x60, 64, 0x52}, ZERO, HUGE, HUGE, ZERO);
+        v.run(5);
+        CHECK.due("behind the first word", v.memory(32, false), 0);
+        CHECK.due("before the last word", v.memory(127, false), 0);
+        CHECK.due("the last word", v.memory(128, false), 255);
+        WideStack w = started(500, new int[] {0x52, 0x60, 0, 0x60, 0, 0x52, 0x60, 0, 0x60, 64, 0x52}, HUGE, small(32));
+        w.run(7);
+        CHECK.due("behind a word of 0", w.memory(32, false), 255);
+        CHECK.due("before a word of 0", w.memory(63, false), 255);
     }
 
     private static void memoryGrows() {

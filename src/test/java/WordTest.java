@@ -28,6 +28,7 @@ public final class WordTest {
             }
         }
         checkRestsByAllThirds(words);
+        checkOneBehindAnother();
         CHECK.finish();
     }
 
@@ -36,7 +37,7 @@ public final class WordTest {
         for (int small : new int[] {0, 1, 2, 3, 7, 15, 30, 31, 32, 33, 127, 128, 224, 255, 256, 257}) {
             words.add(BigInteger.valueOf(small));
         }
-        for (int bit : new int[] {31, 32, 63, 64, 128, 248, 255}) {
+        for (int bit : new int[] {31, 32, 63, 64, 128, 240, 248, 255}) {
             words.add(BigInteger.ONE.shiftLeft(bit));
             words.add(BigInteger.ONE.shiftLeft(bit).subtract(BigInteger.ONE));
         }
@@ -58,6 +59,32 @@ public final class WordTest {
         }
     }
 
+    /** Each instruction behind each other one on the same object: the first must leave nothing to the second. */
+    private static void checkOneBehindAnother() {
+        for (int first : OPS) {
+            for (int second : OPS) {
+                WideStack x = Check.with(first, second);
+                x.start(100);
+                for (int i = 0; i < 4; i++) {
+                    x.push(3 * i - 4, -i, i * i, -1 - i);
+                }
+                for (int i = 0; i < 3; i++) {
+                    x.push(-1, -1, -1, -9 + i);
+                }
+                for (int op : new int[] {first, second}) {
+                    BigInteger due = Model.value(op, wordOf(x, 0), wordOf(x, 1), wordOf(x, 2));
+                    String call = Integer.toHexString(first) + ", " + Integer.toHexString(second);
+                    CHECK.due(call, x.run(1), 1);
+                    CHECK.due(call, wordOf(x, 0), due);
+                }
+            }
+        }
+    }
+
+    private static BigInteger wordOf(WideStack x, int k) {
+        return new BigInteger(Check.word(x, k), 16);
+    }
+
     private static void checkOne(int op, BigInteger a, BigInteger b, int[] c) {
         WideStack x = new WideStack();
         appendNumber(x, b);
@@ -66,7 +93,7 @@ public final class WordTest {
         x.start(100);
         x.push(c[0], c[1], c[2], c[3]);
         x.run(2);
-        BigInteger third = new BigInteger(Check.word(x, 2), 16);
+        BigInteger third = wordOf(x, 2);
         String call = Integer.toHexString(op) + " of " + a.toString(16) + ", " + b.toString(16) + ", "
             + third.toString(16);
         CHECK.due(call + " steps", x.run(1), 1);
