@@ -1020,8 +1020,10 @@ public final class WideStack {
         }
 
         void forget() {
-            Arrays.fill(heights, NOT_REACHED);
-            Arrays.fill(looked, false);
+            for (int place = 0; place < PLACES; place++) {
+                heights[place] = NOT_REACHED;
+                looked[place] = false;
+            }
         }
 
         int heightAt(int place) {
