@@ -170,6 +170,12 @@ public final class CallEdgeTest {
         }
         CHECK.due("byte 96", x.code(0x01), false);
         CHECK.due("marked(0)", x.marked(0), false);
+        // A number that the old code had cut off takes none of the new bytes.
+        WideStack y = Check.with(0x7F);
+        y.clear();
+        Check.append(y, 0x5B, 0x60, 0, 0x56);
+        CHECK.due("marked(0)", y.marked(0), true);
+        CHECK.due("analyse", y.analyse(), 0);
     }
 
     /** Promise 3: "no run is started, nothing analysed". */

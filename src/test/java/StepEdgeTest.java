@@ -14,6 +14,8 @@ public final class StepEdgeTest {
         allBytesBehindTheEndAreStop();
         wordsAreTakenInTheOrderABC();
         loadsReadUnusedMemoryAs0();
+        wordsLieInMemoryHighestByteFirst();
+        aByteIsPutAlone();
         theLastWordAndByteOfTheMemory();
         repeatsUpToFifteenBelow();
         exchangesUpToSixteenBelow();
@@ -154,6 +156,41 @@ public final class StepEdgeTest {
         CHECK.due("51h", x.run(1), 1);
         CHECK.due("word", Check.word(x, 0), "0".repeat(64));
         state("51h", x, 30 - 3 - 15, 1, 160);
+    }
+
+    /** "51h gives the 32 bytes of the memory at A, the highest first. 52h puts B's 32 bytes there". */
+    private static void wordsLieInMemoryHighestByteFirst() {
+        int[] word = {0x81828384, 0x91929394, 0xA1A2A3A4, 0xB1B2B3B4};
+        String bytes = "81828384" + "91929394".repeat(5) + "a1a2a3a4b1b2b3b4";
+        for (int at : new int[] {0, 1, 31, 32, 33, 127, 128}) {
+            WideStack x = started(99, new int[] {0x52, 0x60, at, 0x51}, word, small(at));
+            CHECK.due("52h at " + at, x.run(1), 1);
+            for (int k = 0; k < 160; k++) {
+                boolean inside = k >= at && k < at + 32;
+                int due = inside ? Integer.parseInt(bytes.substring(2 * (k - at), 2 * (k - at) + 2), 16) : 0;
+                CHECK.due("byte " + k, x.memory(k, false), due);
+            }
+            CHECK.due("51h at " + at, x.run(2), 2);
+            CHECK.due("word", Check.word(x, 0), bytes);
+        }
+        // A word 0 goes over all 32 bytes that were there, and over no others.
+        int[] code = {0x52, 0x52, 0x52, 0x60, 0, 0x60, 16, 0x52, 0x60, 16, 0x51};
+        WideStack y = started(99, code, GREATEST, small(64), GREATEST, small(32), GREATEST, small(0));
+        CHECK.due("run", y.run(8), 8);
+        CHECK.due("word", Check.word(y, 0), "0".repeat(64));
+        CHECK.due("byte 15", y.memory(15, false), 255);
+        CHECK.due("byte 48", y.memory(48, false), 255);
+    }
+
+    /** "53h its lowest byte at A". */
+    private static void aByteIsPutAlone() {
+        for (int at : new int[] {0, 1, 31, 32, 158, 159}) {
+            WideStack x = started(99, new int[] {0x53}, new int[] {-1, -1, -1, 0xFFFFFF80}, small(at));
+            CHECK.due("53h at " + at, x.run(1), 1);
+            for (int k = 0; k < 160; k++) {
+                CHECK.due("byte " + k, x.memory(k, false), k == at ? 0x80 : 0);
+            }
+        }
     }
 
     /** "8 when memory beyond byte 159 is used". */
@@ -436,6 +473,8 @@ public final class StepEdgeTest {
         WideStack y = started(5, new int[] {0x5B, 0xF3, 0x5B}, small(9), small(1), small(0));
         ends("RETURN", y, 1, 2);
         state("RETURN", y, 1, 1, 32);
+        CHECK.due("A and B went off the stack", y.height(), 1);
+        CHECK.due("the word below stays", y.part(0, 0), 9);
         CHECK.due("run behind it", y.run(5), 0);
         state("run behind it", y, 1, 1, 32);
     }
