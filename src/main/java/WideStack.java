@@ -1036,7 +1036,7 @@ public final class WideStack {
             for (int round = 0; round < PLACES; round++) {
                 int place = leastToLookAt();
                 if (place == Program.NO_PLACE) {
-                    return 0;
+                    return ACCEPTED;
                 }
                 looked[place] = true;
                 int reason = lookAt(program, place);
@@ -1044,7 +1044,7 @@ public final class WideStack {
                     return 8 * place + reason;
                 }
             }
-            return 0;
+            return ACCEPTED;
         }
 
         private int leastToLookAt() {

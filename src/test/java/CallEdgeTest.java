@@ -5,6 +5,7 @@ public final class CallEdgeTest {
     private static final int GREATEST = Integer.MAX_VALUE;
 
     public static void main(String[] args) {
+        anObjectAnswers512Calls();
         aNewObjectHasNothing();
         codeIsRefusedWhenFull();
         codeIsRefusedOutside0To255();
@@ -63,6 +64,17 @@ public final class CallEdgeTest {
         }
         x.run(500);
         return x;
+    }
+
+    /** "An object is used for at most 512 calls after it has been made". */
+    private static void anObjectAnswers512Calls() {
+        WideStack x = started(9999, 0x5B, 0x60, 0, 0x56);
+        // The code and the start were 5 calls.
+        for (int call = 6; call <= 510; call++) {
+            CHECK.due("call " + call, x.run(3), 3);
+        }
+        CHECK.due("call 511: the gas", x.state(0), 9999 - 505 * (1 + 3 + 8));
+        CHECK.due("call 512: the counter", x.state(1), 0);
     }
 
     /** Promise 1: "No code, nothing started or analysed." */
